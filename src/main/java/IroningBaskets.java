@@ -38,6 +38,7 @@ public final class IroningBaskets {
     private static final int MOST_DAYS = 99;
     private static final int MOST_MINUTES = 600;
     private static final int DAYS_AHEAD = 60;
+    private static final int BEHIND_ALL_DAYS = 1000000;
 
     private static final int SETTINGS = 4;
     private static final int ORDER = 0;
@@ -697,9 +698,9 @@ public final class IroningBaskets {
 
         void copyFrom(Customers other) {
             number = other.number;
-            System.arraycopy(other.district, 0, district, 0, MOST_CUSTOMERS);
-            System.arraycopy(other.owes, 0, owes, 0, MOST_CUSTOMERS);
-            System.arraycopy(other.hangersPaid, 0, hangersPaid, 0, MOST_CUSTOMERS);
+            System.arraycopy(other.district, 0, district, 0, number);
+            System.arraycopy(other.owes, 0, owes, 0, number);
+            System.arraycopy(other.hangersPaid, 0, hangersPaid, 0, number);
         }
 
         boolean has(int customer) {
@@ -987,7 +988,7 @@ public final class IroningBaskets {
             switch (settings[ORDER]) {
                 case BY_VISIT:
                     int next = nextVisit(customers.district[basket.customer]);
-                    return next == NONE ? Integer.MAX_VALUE : next;
+                    return next == NONE ? BEHIND_ALL_DAYS : next;
                 case BY_MINUTES:
                     return basket.openMinutes();
                 default:

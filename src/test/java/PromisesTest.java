@@ -33,7 +33,9 @@ public final class PromisesTest {
         promise14ClearText();
         promise15Fault();
         promise16Undo();
+        promise16UndoBringsBackHangersAndPins();
         promise17And18KeepRestore();
+        promise18PlacesAreUsedAgain();
         promise19CustomerOf();
         promise20BasketOf();
         promise21Lost();
@@ -165,6 +167,13 @@ public final class PromisesTest {
             due("its pin", x.basketOf(i, 1), i);
         }
         due("a ninth", x.basket(0, 1, 0, 0), FULL);
+        due("those of customer 0", x.customerOf(0, 4), 4);
+        due("none is ready", x.count(3), 0);
+        due("no hangers are on pieces", x.count(6), 0);
+        due("a ninth is not told", x.basketOf(8, 0), UNKNOWN);
+        due("nor ordered", x.ordered(8), NONE);
+        due("nor home", x.homeOn(8, 1), UNKNOWN);
+        due("none is wanting", x.wanting(), 0);
         due("NOT_POSSIBLE before FULL", x.basket(0, 1, 0, 1), NOT_POSSIBLE);
         x.visit(1, 0);
         x.iron(600);
@@ -237,6 +246,26 @@ public final class PromisesTest {
         due("count(2)", x.count(2), 0);
         due("again", x.baskets(), 2);
         due("the numbers are given anew", x.basketOf(1, 3), 140);
+        x.pass(3);
+        due("on another day", x.baskets(), 2);
+        int[] days = {0, 0, 3, 3};
+        for (int i = 0; i < 4; i++) {
+            due("pin of " + i, x.basketOf(i, 1), i);
+            due("day of " + i, x.basketOf(i, 9), days[i]);
+        }
+        x.iron(600);
+        x.pass(1);
+        x.pass(2);
+        due("in emptied places", x.baskets(), 2);
+        due("day of 4", x.basketOf(4, 9), 6);
+        due("pin of 5", x.basketOf(5, 1), 1);
+        x.undo();
+        x.undo();
+        x.undo();
+        for (int i = 0; i < 4; i++) {
+            due("pin of " + i, x.basketOf(i, 1), i);
+            due("day of " + i, x.basketOf(i, 9), days[i]);
+        }
     }
 
     private static void promise5AllOrNone() {
@@ -272,6 +301,25 @@ public final class PromisesTest {
         due("twelve", x.count(18), 59);
         due("twelve are too many", x.baskets(), FULL);
         due("none came", x.count(4), 0);
+        // Two digits of hangers, and nothing is left of the baskets that were read before.
+        x = withCustomers(0);
+        x.basket(0, 9990, 0, 0);
+        x.iron(600);
+        x.pass(1);
+        x.clearText();
+        typeAll(x, "0:s9b9*3-15;0:l9*2-2");
+        due("fifteen and two", x.baskets(), 2);
+        due("ten are left", x.customerOf(0, 1), 10);
+        due("fifteen", x.book(1, 3), 15);
+        due("two", x.book(0, 3), 2);
+        x.clearText();
+        typeAll(x, "0:t1;0:t2-10");
+        due("none and ten", x.baskets(), 2);
+        due("none are left", x.customerOf(0, 1), 0);
+        due("no starch", x.basketOf(3, 2), 0);
+        due("no starch", x.basketOf(4, 2), 0);
+        due("trousers alone", x.basketOf(3, 3), 10);
+        due("trousers alone", x.basketOf(4, 3), 20);
     }
 
     private static void promise6Lose() {
@@ -309,6 +357,17 @@ public final class PromisesTest {
         due("UNKNOWN before FULL", x.lose(0, 4), UNKNOWN);
         due("UNKNOWN before FULL", x.lose(2, 0), UNKNOWN);
         due("count(10)", x.count(10), 20);
+        due("nineteen", x.find(19, 1), 19);
+        due("eighteen", x.find(0, 0), 18);
+        // Eight baskets that miss pieces.
+        x = withCustomers(0);
+        for (int i = 0; i < 8; i++) {
+            x.basket(0, 1, 0, 0);
+            due("lost " + (i + 1), x.lose(i, 3), i + 1);
+        }
+        due("eight can be its own", x.lost(7, 2), 8);
+        due("the lowest", x.lost(7, 3), 0);
+        due("none is sure", x.sure(), 0);
     }
 
     private static void promise7Find() {
@@ -352,7 +411,7 @@ public final class PromisesTest {
         due("iron(601)", x.iron(601), BAD_VALUE);
         due("iron(-1)", x.iron(-1), BAD_VALUE);
         due("errors record nothing", x.count(17), 1);
-        due("nothing to iron", x.iron(600), 0);
+        due("nothing to iron", x.iron(1), 0);
         due("that is an act, too", x.count(17), 2);
         x.basket(0, 1111, 2, 0);
         due("a shirt takes 7, stirring 3", x.iron(9), 0);
@@ -412,6 +471,9 @@ public final class PromisesTest {
         due("a hanger", x.iron(600), 1);
         due("a shirt", x.basketOf(2, 4), 7002);
         due("no hanger", x.count(5), 0);
+        x.basket(1, 3, 0, 0);
+        due("a later basket has sheets", x.iron(600), 3);
+        due("a later basket has sheets", x.basketOf(3, 4), 3);
     }
 
     private static void promise8Orders() {
@@ -554,6 +616,34 @@ public final class PromisesTest {
         due("once for a customer", x.book(1, 3), 14);
         due("they do not come back", x.count(5), 54);
         due("paid so far", x.count(8), 3);
+        // Ten customers at once.
+        x = withCustomers(0, 1, 2, 3, 4, 0, 1, 2, 3, 4);
+        for (int i = 9; i >= 2; i--) {
+            x.basket(i, 10, 0, 0);
+        }
+        x.iron(600);
+        x.pass(1);
+        x.basket(0, 10, 0, 0);
+        x.basket(1, 10, 0, 0);
+        x.iron(600);
+        x.visit(0, 0);
+        x.visit(1, 0);
+        x.pass(14);
+        due("none is paid", x.count(8), 0);
+        x.pass(1);
+        due("eight are paid", x.count(8), 8);
+        for (int i = 0; i < 8; i++) {
+            due("by numbers", x.book(i, 2), 9 - i);
+        }
+        due("owed by all", x.count(15), 8 * 5);
+        x.undo();
+        due("paid by 9", x.customerOf(9, 3), 0);
+        x.pass(1);
+        x.customer(0);
+        x.set(1, 4);
+        x.undo();
+        due("paid by 2", x.customerOf(2, 3), 1);
+        due("paid by 0", x.customerOf(0, 3), 0);
         // With a new grace several days are paid at once; for nothing, if the price is nothing.
         x = withCustomers(0);
         x.set(3, 0);
@@ -569,9 +659,15 @@ public final class PromisesTest {
         due("paid before the van comes", x.book(0, 0), 1);
         due("two were too long out", x.customerOf(0, 3), 2);
         due("in one entry", x.book(1, 0), 2);
+        due("on the day 4", x.book(1, 1), 4);
         due("for nothing", x.book(1, 3), 0);
         due("still out", x.customerOf(0, 1), 2);
         due("owed for four trousers", x.customerOf(0, 2), 12);
+        x.pass(1);
+        due("one more", x.customerOf(0, 3), 3);
+        x.pass(1);
+        due("and one more", x.customerOf(0, 3), 4);
+        due("of all", x.count(8), 4);
     }
 
     private static void promise10Buy() {
@@ -582,6 +678,7 @@ public final class PromisesTest {
         due("buy(-1)", x.buy(-1), BAD_VALUE);
         due("buy(1)", x.buy(1), 61);
         due("bought", x.count(9), 1);
+        due("an act", x.count(17), 1);
         for (int i = 0; i < 9; i++) {
             x.buy(99);
         }
@@ -725,6 +822,14 @@ public final class PromisesTest {
         dueFault("0:s1-1b1", 6);
         dueFault("0:s1-12-1", 7);
         dueFault("0:s1;;", 5);
+        dueFault("::s1", 0);
+        dueFault("0:s:", 3);
+        dueFault("0:s1*:", 5);
+        dueFault("0:s1-:", 5);
+        dueFault("0:s1-/", 5);
+        dueFault("0:s1-1:", 6);
+        dueFault("0:s1-1/", 6);
+        dueFault("0:s1-11;", 8);
         dueFault("0:s1;0:s1;", 10);
         dueFault("0:l1;0:s1", NONE);
         dueFault("0:s1" + (char) 0x133, 4);
@@ -779,6 +884,48 @@ public final class PromisesTest {
         due("undo", x.undo(), 1);
         due("undo", x.undo(), 0);
         dueSame("find, iron, pass and pay", before, everything(x));
+    }
+
+    private static void promise16UndoBringsBackHangersAndPins() {
+        promise = 16;
+        IroningBaskets x = withCustomers(0, 1, 2);
+        x.visit(1, 1 << 4);
+        x.basket(1, 10, 0, 0);
+        x.basket(0, 1020, 0, 0);
+        x.basket(2, 1111, 3, 0);
+        x.lose(2, 2);
+        x.lose(2, 0);
+        x.iron(23);
+        x.pass(1);
+        x.basket(2, 30, 0, 0);
+        x.iron(600);
+        x.pass(1);
+        due("pin of the latest", x.basketOf(3, 1), UNKNOWN);
+        x.pass(2);
+        due("hangers of 0 are out", x.customerOf(0, 5), 1);
+        due("hangers of 1 are out", x.customerOf(1, 5), 4);
+        due("hangers of 2 are out", x.customerOf(2, 5), 2);
+        x.buy(20);
+        x.undo();
+        due("bought", x.count(9), 0);
+        due("stock", x.count(5), 60 - 8);
+        int[] before = everything(x);
+        x.pass(20);
+        x.find(0, 2);
+        x.basket(0, 1, 0, 0);
+        x.basket(0, 2, 0, 0);
+        for (int i = 0; i < 4; i++) {
+            x.undo();
+        }
+        dueSame("pass, find and two baskets", before, everything(x));
+        x.basket(0, 1, 0, 3);
+        due("hangers come back", x.customerOf(0, 5), NONE);
+        x.undo();
+        dueSame("a basket with hangers", before, everything(x));
+        due("the lost ones are told", x.lost(0, 0), 2);
+        due("the lost ones are told", x.lost(0, 1), 0);
+        due("the lost ones are told", x.lost(1, 0), 0);
+        due("the lost ones are told", x.lost(1, 1), 3);
     }
 
     private static int[] everything(IroningBaskets x) {
@@ -843,6 +990,37 @@ public final class PromisesTest {
         due("in place of the one that was", x.restore(), 6);
         x.undo();
         due("undo leaves the snapshot", x.restore(), 6);
+    }
+
+    private static void promise18PlacesAreUsedAgain() {
+        promise = 18;
+        IroningBaskets x = new IroningBaskets();
+        x.keep();
+        x.customer(0);
+        x.customer(3);
+        x.basket(1, 9999, 3, 0);
+        x.lose(0, 0);
+        x.iron(100);
+        x.set(2, 1);
+        x.basket(1, 30, 0, 0);
+        x.set(0, 2);
+        x.iron(600);
+        x.pass(1);
+        x.pass(5);
+        due("hangers are paid", x.customerOf(1, 3), 3);
+        due("restore", x.restore(), 0);
+        due("a customer comes", x.customer(1), 0);
+        due("a customer comes", x.customer(1), 1);
+        for (int what = 1; what < 6; what++) {
+            due("customerOf(1, " + what + ")", x.customerOf(1, what), what == 5 ? NONE : 0);
+        }
+        due("a basket comes", x.basket(1, 1111, 1, 0), 0);
+        int[] want = {1, 0, 1, 1111, 0, 0, 0, 3 + 3 + 3 + 4, 6 + 5 + 6 + 8, 0};
+        for (int what = 0; what < want.length; what++) {
+            due("basketOf(0, " + what + ")", x.basketOf(0, what), want[what]);
+        }
+        due("nothing is lost", x.lost(0, 0), UNKNOWN);
+        due("one event", x.book(1, 0), NONE);
     }
 
     private static void promise19CustomerOf() {
@@ -1080,6 +1258,7 @@ public final class PromisesTest {
         due("what -1", x.ifIroned(0, 1, -1), BAD_VALUE);
         due("what 3", x.ifIroned(0, 1, 3), BAD_VALUE);
         due("nothing", x.ifIroned(0, 600, 0), 0);
+        due("nothing in a minute", x.ifIroned(2, 1, 2), 0);
         x.visit(0, 0);
         x.basket(0, 3000, 2, 0);
         x.basket(1, 2, 0, 0);
@@ -1106,6 +1285,7 @@ public final class PromisesTest {
         due("minutes 0", x.bestOrder(0), BAD_VALUE);
         due("minutes 601", x.bestOrder(601), BAD_VALUE);
         due("all alike", x.bestOrder(600), 0);
+        due("all alike", x.bestOrder(1), 0);
         x.visit(0, 0);
         x.basket(0, 9, 0, 0);
         x.basket(1, 3, 0, 0);
@@ -1135,6 +1315,7 @@ public final class PromisesTest {
         due("minutes 0", x.homeOn(0, 0), BAD_VALUE);
         due("minutes 601", x.homeOn(0, 601), BAD_VALUE);
         due("tomorrow", x.homeOn(2, 600), 1);
+        due("a minute is nothing", x.homeOn(2, 1), NONE);
         due("a piece a day", x.homeOn(0, 8), 9);
         due("then the next", x.homeOn(1, 8), 12);
         due("minutes that are left are lost", x.homeOn(1, 15), 12);
