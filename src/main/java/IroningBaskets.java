@@ -13,9 +13,6 @@ public final class IroningBaskets {
 
     private static final int DISTRICTS = 5;
     private static final int KINDS = 4;
-    private static final int SHIRTS = 0;
-    private static final int BLOUSES = 1;
-    private static final int SHEETS = 3;
     private static final int MOST_STARCH = 3;
 
     private static final int MOST_CUSTOMERS = 10;
@@ -468,7 +465,10 @@ public final class IroningBaskets {
 
     /** A basket that is here. */
     private static final class Basket {
+        // Of the kinds, in their order: shirts, blouses, trousers, sheets.
         static final int[] MINUTES = {5, 4, 6, 8};
+        static final int[] MINUTES_A_DEGREE = {1, 1, 0, 0};
+        static final int[] HANGERS_TAKEN = {1, 1, 1, 0};
         static final int[] WEIGHTS = {1000, 100, 10, 1};
 
         int number;
@@ -508,11 +508,11 @@ public final class IroningBaskets {
         }
 
         static boolean takesStarch(int kind) {
-            return kind == SHIRTS || kind == BLOUSES;
+            return MINUTES_A_DEGREE[kind] > 0;
         }
 
         static boolean takesHanger(int kind) {
-            return kind != SHEETS;
+            return HANGERS_TAKEN[kind] > 0;
         }
 
         int degree(int kind) {
@@ -520,7 +520,7 @@ public final class IroningBaskets {
         }
 
         int minutes(int kind) {
-            return MINUTES[kind] + degree(kind);
+            return MINUTES[kind] + MINUTES_A_DEGREE[kind] * starch;
         }
 
         /** Pieces of a kind that are neither ironed nor missed. */
@@ -569,9 +569,7 @@ public final class IroningBaskets {
         static int needingHangers(int[] pieces) {
             int needing = 0;
             for (int kind = 0; kind < KINDS; kind++) {
-                if (takesHanger(kind)) {
-                    needing += pieces[kind];
-                }
+                needing += HANGERS_TAKEN[kind] * pieces[kind];
             }
             return needing;
         }
