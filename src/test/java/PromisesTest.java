@@ -1,15 +1,5 @@
 /** For each promise of the document: ordinary calls, the edges that it names, and wrong arguments. */
-public final class PromisesTest {
-    private static final int UNKNOWN = -1;
-    private static final int BAD_VALUE = -2;
-    private static final int FULL = -3;
-    private static final int NOT_POSSIBLE = -4;
-    private static final int NONE = -5;
-
-    private static int promise;
-    private static int checks;
-    private static int wrong;
-
+public final class PromisesTest extends Checks {
     public static void main(String[] args) {
         promise1NewObject();
         promise2Customer();
@@ -48,50 +38,16 @@ public final class PromisesTest {
         promise28HomeOn();
         promise29Wanting();
         promise30Sure();
-        System.out.println("PromisesTest: " + checks + " checks, " + wrong + " wrong");
-        if (wrong != 0) {
-            System.exit(1);
-        }
-    }
-
-    private static void due(String call, int got, int want) {
-        checks++;
-        if (got != want) {
-            wrong++;
-            System.out.println("promise " + promise + ": " + call + " answered " + got + ", due is " + want);
-        }
-    }
-
-    private static void dueFloat(String call, float got, float want) {
-        checks++;
-        if (Float.floatToIntBits(got) != Float.floatToIntBits(want)) {
-            wrong++;
-            System.out.println("promise " + promise + ": " + call + " answered " + got + ", due is " + want);
-        }
-    }
-
-    private static IroningBaskets withCustomers(int... districts) {
-        IroningBaskets x = new IroningBaskets();
-        for (int district : districts) {
-            x.customer(district);
-        }
-        return x;
-    }
-
-    private static void typeAll(IroningBaskets x, String signs) {
-        for (int i = 0; i < signs.length(); i++) {
-            x.type(signs.charAt(i));
-        }
+        finish("PromisesTest");
     }
 
     private static void dueFault(String signs, int want) {
-        IroningBaskets x = new IroningBaskets();
-        typeAll(x, signs);
+        IroningBaskets x = withText(signs);
         due("fault of \"" + signs + "\"", x.fault(), want);
     }
 
     private static void promise1NewObject() {
-        promise = 1;
+        of("promise 1");
         due("UNKNOWN", IroningBaskets.UNKNOWN, -1);
         due("BAD_VALUE", IroningBaskets.BAD_VALUE, -2);
         due("FULL", IroningBaskets.FULL, -3);
@@ -112,7 +68,7 @@ public final class PromisesTest {
     }
 
     private static void promise2Customer() {
-        promise = 2;
+        of("promise 2");
         IroningBaskets x = new IroningBaskets();
         due("customer(-1)", x.customer(-1), UNKNOWN);
         due("customer(5)", x.customer(5), UNKNOWN);
@@ -131,7 +87,7 @@ public final class PromisesTest {
     }
 
     private static void promise3Visit() {
-        promise = 3;
+        of("promise 3");
         IroningBaskets x = new IroningBaskets();
         due("visit(-1, 1)", x.visit(-1, 1), UNKNOWN);
         due("visit(5, 1)", x.visit(5, 1), UNKNOWN);
@@ -149,7 +105,7 @@ public final class PromisesTest {
     }
 
     private static void promise4Basket() {
-        promise = 4;
+        of("promise 4");
         IroningBaskets x = withCustomers(0, 1);
         due("basket(2, ..)", x.basket(2, 1, 0, 0), UNKNOWN);
         due("basket(-1, ..)", x.basket(-1, 0, 9, 999), UNKNOWN);
@@ -196,7 +152,7 @@ public final class PromisesTest {
     }
 
     private static void promise4GivesBackTheOldestFirst() {
-        promise = 4;
+        of("promise 4");
         IroningBaskets x = withCustomers(0, 0);
         x.basket(0, 30, 0, 0);
         x.basket(1, 20, 0, 0);
@@ -221,7 +177,7 @@ public final class PromisesTest {
     }
 
     private static void promise5Baskets() {
-        promise = 5;
+        of("promise 5");
         IroningBaskets x = withCustomers(0, 3);
         due("empty text", x.baskets(), -100);
         typeAll(x, "1:s2l9*3;");
@@ -269,7 +225,7 @@ public final class PromisesTest {
     }
 
     private static void promise5AllOrNone() {
-        promise = 5;
+        of("promise 5");
         IroningBaskets x = withCustomers(0);
         typeAll(x, "0:l1;1:l1-9");
         due("the second has no customer", x.baskets(), UNKNOWN);
@@ -323,7 +279,7 @@ public final class PromisesTest {
     }
 
     private static void promise6Lose() {
-        promise = 6;
+        of("promise 6");
         IroningBaskets x = withCustomers(0);
         x.basket(0, 2101, 2, 0);
         due("no such basket", x.lose(1, 0), UNKNOWN);
@@ -371,7 +327,7 @@ public final class PromisesTest {
     }
 
     private static void promise7Find() {
-        promise = 7;
+        of("promise 7");
         IroningBaskets x = withCustomers(0);
         x.basket(0, 1111, 2, 0);
         x.basket(0, 1111, 2, 0);
@@ -405,7 +361,7 @@ public final class PromisesTest {
     }
 
     private static void promise8Iron() {
-        promise = 8;
+        of("promise 8");
         IroningBaskets x = withCustomers(0);
         due("iron(0)", x.iron(0), BAD_VALUE);
         due("iron(601)", x.iron(601), BAD_VALUE);
@@ -456,7 +412,7 @@ public final class PromisesTest {
     }
 
     private static void promise8Hangers() {
-        promise = 8;
+        of("promise 8");
         IroningBaskets x = withCustomers(0, 0);
         x.visit(0, 0);
         x.basket(0, 9990, 0, 0);
@@ -477,7 +433,7 @@ public final class PromisesTest {
     }
 
     private static void promise8Orders() {
-        promise = 8;
+        of("promise 8");
         IroningBaskets x = withCustomers(0, 1, 2);
         x.visit(0, 0);
         x.visit(1, 8);
@@ -518,7 +474,7 @@ public final class PromisesTest {
     }
 
     private static void promise9Pass() {
-        promise = 9;
+        of("promise 9");
         IroningBaskets x = withCustomers(0);
         due("pass(0)", x.pass(0), BAD_VALUE);
         due("pass(100)", x.pass(100), BAD_VALUE);
@@ -540,7 +496,7 @@ public final class PromisesTest {
     }
 
     private static void promise9Van() {
-        promise = 9;
+        of("promise 9");
         IroningBaskets x = withCustomers(0, 1);
         x.visit(1, 1 << 3);
         x.basket(1, 1, 0, 0);
@@ -584,7 +540,7 @@ public final class PromisesTest {
     }
 
     private static void promise9Payments() {
-        promise = 9;
+        of("promise 9");
         IroningBaskets x = withCustomers(0, 0, 0);
         x.set(2, 2);
         x.set(3, 7);
@@ -671,7 +627,7 @@ public final class PromisesTest {
     }
 
     private static void promise10Buy() {
-        promise = 10;
+        of("promise 10");
         IroningBaskets x = new IroningBaskets();
         due("buy(0)", x.buy(0), BAD_VALUE);
         due("buy(100)", x.buy(100), BAD_VALUE);
@@ -702,7 +658,7 @@ public final class PromisesTest {
     }
 
     private static void promise11Pay() {
-        promise = 11;
+        of("promise 11");
         IroningBaskets x = withCustomers(0, 0);
         due("no such customer", x.pay(2), UNKNOWN);
         due("customer -1", x.pay(-1), UNKNOWN);
@@ -724,7 +680,7 @@ public final class PromisesTest {
     }
 
     private static void promise12Set() {
-        promise = 12;
+        of("promise 12");
         int[] lowest = {0, 0, 1, 0};
         int[] highest = {2, 20, 60, 99};
         int[] first = {0, 3, 14, 2};
@@ -749,7 +705,7 @@ public final class PromisesTest {
     }
 
     private static void promise13Type() {
-        promise = 13;
+        of("promise 13");
         IroningBaskets x = new IroningBaskets();
         for (int i = 1; i <= 60; i++) {
             due("type", x.type((char) (i * 1000)), i);
@@ -764,7 +720,7 @@ public final class PromisesTest {
     }
 
     private static void promise14ClearText() {
-        promise = 14;
+        of("promise 14");
         IroningBaskets x = new IroningBaskets();
         due("empty", x.clearText(), 0);
         typeAll(x, "0:s1");
@@ -777,7 +733,7 @@ public final class PromisesTest {
     }
 
     private static void promise15Fault() {
-        promise = 15;
+        of("promise 15");
         String[] right = {"0:s1", "9:b9", "0:t1", "0:l1", "1:s1b2t3l4", "1:b1l1", "0:s1*1", "0:s1*3-1", "0:s1-9",
             "0:s1-10", "0:s1-99", "0:s1;1:b1", "0:s1*2;1:b1-3;2:l9", "0:s1-12;1:l1", "0:s1-1;1:l1"};
         for (String signs : right) {
@@ -841,7 +797,7 @@ public final class PromisesTest {
     }
 
     private static void promise16Undo() {
-        promise = 16;
+        of("promise 16");
         IroningBaskets x = new IroningBaskets();
         due("nothing to undo", x.undo(), NONE);
         for (int i = 0; i < 6; i++) {
@@ -862,7 +818,7 @@ public final class PromisesTest {
         x.lose(0, 1);
         x.pass(3);
         x.iron(20);
-        int[] before = everything(x);
+        String before = everything(x);
         x.iron(600);
         x.undo();
         dueSame("iron", before, everything(x));
@@ -887,7 +843,7 @@ public final class PromisesTest {
     }
 
     private static void promise16UndoBringsBackHangersAndPins() {
-        promise = 16;
+        of("promise 16");
         IroningBaskets x = withCustomers(0, 1, 2);
         x.visit(1, 1 << 4);
         x.basket(1, 10, 0, 0);
@@ -909,7 +865,7 @@ public final class PromisesTest {
         x.undo();
         due("bought", x.count(9), 0);
         due("stock", x.count(5), 60 - 8);
-        int[] before = everything(x);
+        String before = everything(x);
         x.pass(20);
         x.find(0, 2);
         x.basket(0, 1, 0, 0);
@@ -928,43 +884,24 @@ public final class PromisesTest {
         due("the lost ones are told", x.lost(1, 1), 3);
     }
 
-    private static int[] everything(IroningBaskets x) {
-        int[] all = new int[400];
-        int at = 0;
-        for (int what = 0; what <= 22; what++) {
-            all[at++] = what == 17 ? 0 : x.count(what);
-        }
-        for (int i = 0; i < 10; i++) {
-            for (int what = 0; what < 10; what++) {
-                all[at++] = x.customerOf(i, what);
-                all[at++] = x.basketOf(i, what);
-                all[at++] = x.book(i, what);
-            }
-            all[at++] = x.lost(i, 0);
-            all[at++] = x.lost(i, 1);
-            all[at++] = x.ordered(i);
-        }
-        return all;
-    }
-
-    private static void dueSame(String act, int[] before, int[] after) {
-        due("undo of " + act, java.util.Arrays.mismatch(before, after), -1);
+    private static void dueSame(String act, String before, String after) {
+        due("undo of " + act, after, before);
     }
 
     private static void promise17And18KeepRestore() {
-        promise = 18;
+        of("promise 18");
         IroningBaskets x = withCustomers(3);
         due("no snapshot", x.restore(), NONE);
         due("nothing was recorded", x.count(17), 1);
         x.basket(0, 1234, 2, 0);
         x.lose(0, 3);
         x.pass(5);
-        promise = 17;
-        int[] before = everything(x);
+        of("promise 17");
+        String before = everything(x);
         due("keep", x.keep(), 5);
         due("no act", x.count(17), 4);
         dueSame("keep changes nothing", before, everything(x));
-        promise = 18;
+        of("promise 18");
         typeAll(x, "0:s1");
         x.find(0, 0);
         x.iron(600);
@@ -983,7 +920,7 @@ public final class PromisesTest {
         x.iron(600);
         due("the snapshot is apart", x.restore(), 5);
         dueSame("restore", before, everything(x));
-        promise = 17;
+        of("promise 17");
         x.pass(1);
         due("another one", x.keep(), 6);
         x.pass(1);
@@ -993,7 +930,7 @@ public final class PromisesTest {
     }
 
     private static void promise18PlacesAreUsedAgain() {
-        promise = 18;
+        of("promise 18");
         IroningBaskets x = new IroningBaskets();
         x.keep();
         x.customer(0);
@@ -1024,7 +961,7 @@ public final class PromisesTest {
     }
 
     private static void promise19CustomerOf() {
-        promise = 19;
+        of("promise 19");
         IroningBaskets x = withCustomers(4, 2);
         due("no such customer", x.customerOf(2, 0), UNKNOWN);
         due("customer -1", x.customerOf(-1, 7), UNKNOWN);
@@ -1061,7 +998,7 @@ public final class PromisesTest {
     }
 
     private static void promise20BasketOf() {
-        promise = 20;
+        of("promise 20");
         IroningBaskets x = withCustomers(0, 0);
         x.pass(4);
         x.basket(0, 1, 0, 0);
@@ -1106,7 +1043,7 @@ public final class PromisesTest {
     }
 
     private static void promise21Lost() {
-        promise = 21;
+        of("promise 21");
         IroningBaskets x = withCustomers(0);
         due("none is lost", x.lost(0, 0), UNKNOWN);
         x.basket(0, 1111, 1, 0);
@@ -1135,7 +1072,7 @@ public final class PromisesTest {
     }
 
     private static void promise22Ordered() {
-        promise = 22;
+        of("promise 22");
         IroningBaskets x = withCustomers(0, 1, 2);
         due("none is here", x.ordered(0), NONE);
         due("rank -1", x.ordered(-1), BAD_VALUE);
@@ -1170,7 +1107,7 @@ public final class PromisesTest {
     }
 
     private static void promise23Book() {
-        promise = 23;
+        of("promise 23");
         IroningBaskets x = withCustomers(0);
         due("ago -1", x.book(-1, 0), BAD_VALUE);
         due("ago 10", x.book(10, 0), BAD_VALUE);
@@ -1201,7 +1138,7 @@ public final class PromisesTest {
     }
 
     private static void promise24Count() {
-        promise = 24;
+        of("promise 24");
         IroningBaskets x = withCustomers(0, 1, 1);
         due("what -1", x.count(-1), BAD_VALUE);
         due("what 23", x.count(23), BAD_VALUE);
@@ -1236,20 +1173,20 @@ public final class PromisesTest {
     }
 
     private static void promise25MeanMinutes() {
-        promise = 25;
+        of("promise 25");
         IroningBaskets x = withCustomers(0);
-        dueFloat("none", x.meanMinutes(), 0.0f);
+        due("none", x.meanMinutes(), 0.0f);
         x.basket(0, 1200, 1, 0);
         x.iron(13);
-        dueFloat("9 for one", x.meanMinutes(), 9.0f);
+        due("9 for one", x.meanMinutes(), 9.0f);
         x.iron(600);
-        dueFloat("19 for three", x.meanMinutes(), 19.0f / 3.0f);
+        due("19 for three", x.meanMinutes(), 19.0f / 3.0f);
         x.pass(1);
-        dueFloat("19 for three", x.meanMinutes(), 19.0f / 3.0f);
+        due("19 for three", x.meanMinutes(), 19.0f / 3.0f);
     }
 
     private static void promise26IfIroned() {
-        promise = 26;
+        of("promise 26");
         IroningBaskets x = withCustomers(0, 1);
         due("order -1", x.ifIroned(-1, 1, 0), BAD_VALUE);
         due("order 3", x.ifIroned(3, 1, 0), BAD_VALUE);
@@ -1263,7 +1200,7 @@ public final class PromisesTest {
         x.basket(0, 3000, 2, 0);
         x.basket(1, 2, 0, 0);
         x.basket(0, 100, 1, 0);
-        int[] before = everything(x);
+        String before = everything(x);
         int[][] want = {{2, 0, 1}, {2, 1, 0}, {2, 1, 1}};
         for (int order = 0; order < 3; order++) {
             for (int what = 0; what < 3; what++) {
@@ -1280,7 +1217,7 @@ public final class PromisesTest {
     }
 
     private static void promise27BestOrder() {
-        promise = 27;
+        of("promise 27");
         IroningBaskets x = withCustomers(0, 1);
         due("minutes 0", x.bestOrder(0), BAD_VALUE);
         due("minutes 601", x.bestOrder(601), BAD_VALUE);
@@ -1306,7 +1243,7 @@ public final class PromisesTest {
     }
 
     private static void promise28HomeOn() {
-        promise = 28;
+        of("promise 28");
         IroningBaskets x = withCustomers(0, 1);
         due("no such basket", x.homeOn(0, 0), UNKNOWN);
         x.basket(0, 9, 0, 0);
@@ -1354,7 +1291,7 @@ public final class PromisesTest {
     }
 
     private static void promise29Wanting() {
-        promise = 29;
+        of("promise 29");
         IroningBaskets x = withCustomers(0);
         due("none", x.wanting(), 0);
         x.visit(0, 0);
@@ -1377,7 +1314,7 @@ public final class PromisesTest {
     }
 
     private static void promise30Sure() {
-        promise = 30;
+        of("promise 30");
         IroningBaskets x = withCustomers(0);
         due("none is lost", x.sure(), 0);
         x.basket(0, 2202, 1, 0);
