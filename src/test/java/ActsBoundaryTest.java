@@ -765,6 +765,7 @@ public final class ActsBoundaryTest extends Checks {
         });
         test("what was typed before is gone", () -> {
             IroningBaskets x = withText("0:s1b2*3-45");
+            due(x.fault(), NONE);
             x.clearText();
             typeAll(x, "0:l");
             due(x.fault(), 3);

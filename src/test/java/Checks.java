@@ -119,6 +119,33 @@ abstract class Checks {
         return text.toString();
     }
 
+    /**
+     * On the day 3 three customers, of whom 0 and 1 have 2 and 3 hangers out and owe coins; the baskets 2 and 3 of the
+     * day 2 are half ironed, 4 of the day 3 misses its only piece, 5 is ready; four pieces are lost; the order is by
+     * minutes; there are a snapshot, a full history and a text.
+     */
+    static IroningBaskets busy() {
+        IroningBaskets x = withCustomers(0, 3, 0);
+        sendHangers(x, 0, 2);
+        sendHangers(x, 1, 3);
+        x.basket(0, 2121, 2, 0);
+        x.basket(1, 3203, 1, 0);
+        x.pass(1);
+        x.basket(1, 1, 0, 0);
+        x.basket(0, 1, 0, 0);
+        x.lose(2, 0);
+        x.lose(3, 1);
+        x.lose(4, 3);
+        x.lose(3, 0);
+        x.keep();
+        x.set(0, 2);
+        x.iron(8);
+        x.iron(30);
+        x.visit(3, 65);
+        typeAll(x, "1:s2-1;0:l9");
+        return x;
+    }
+
     /** All that a state tells. */
     static String everything(IroningBaskets x) {
         StringBuilder all = new StringBuilder();

@@ -27,24 +27,6 @@ public final class RefusalsTest extends Checks {
         finish("RefusalsTest");
     }
 
-    /** Two customers, the first with two hangers; the baskets 1 to 3 miss a piece each; a history, a snapshot, a text. */
-    private static IroningBaskets some() {
-        IroningBaskets x = withCustomers(0, 3);
-        sendHangers(x, 0, 2);
-        x.basket(0, 2121, 2, 0);
-        x.basket(1, 3203, 1, 0);
-        x.basket(1, 1, 0, 0);
-        x.lose(1, 0);
-        x.lose(2, 1);
-        x.lose(3, 3);
-        x.keep();
-        x.iron(30);
-        x.visit(3, 65);
-        x.set(0, 1);
-        typeAll(x, "0:s1;");
-        return x;
-    }
-
     private static IroningBaskets fullShelf() {
         return withBaskets(1, 10, 100, 1000, 2, 20, 200, 2000);
     }
@@ -102,56 +84,56 @@ public final class RefusalsTest extends Checks {
 
     private static void orderOfChecks() {
         of("ERRORS, the order of the checks");
-        refused("visit: UNKNOWN before BAD_VALUE", () -> some(), x -> x.visit(5, 128), UNKNOWN);
-        refused("visit: BAD_VALUE", () -> some(), x -> x.visit(3, 128), BAD_VALUE);
-        refused("basket: UNKNOWN before BAD_VALUE (pieces)", () -> some(), x -> x.basket(2, 0, 0, 0), UNKNOWN);
-        refused("basket: UNKNOWN before BAD_VALUE (starch)", () -> some(), x -> x.basket(2, 1, 4, 0), UNKNOWN);
-        refused("basket: UNKNOWN before BAD_VALUE (hangers)", () -> some(), x -> x.basket(2, 1, 0, 100), UNKNOWN);
-        refused("basket: UNKNOWN before NOT_POSSIBLE", () -> some(), x -> x.basket(2, 1, 0, 3), UNKNOWN);
-        refused("basket: BAD_VALUE (pieces) before NOT_POSSIBLE", () -> some(), x -> x.basket(0, 0, 0, 3), BAD_VALUE);
-        refused("basket: BAD_VALUE (starch) before NOT_POSSIBLE", () -> some(), x -> x.basket(0, 1, 4, 3), BAD_VALUE);
-        refused("basket: BAD_VALUE (hangers), not NOT_POSSIBLE", () -> some(), x -> x.basket(0, 1, 0, 100), BAD_VALUE);
-        refused("basket: NOT_POSSIBLE", () -> some(), x -> x.basket(0, 1, 0, 3), NOT_POSSIBLE);
-        refused("baskets: a fault before the errors of the baskets", () -> retyped(some(), "9:l1;0:l1-9;x"),
+        refused("visit: UNKNOWN before BAD_VALUE", () -> busy(), x -> x.visit(5, 128), UNKNOWN);
+        refused("visit: BAD_VALUE", () -> busy(), x -> x.visit(3, 128), BAD_VALUE);
+        refused("basket: UNKNOWN before BAD_VALUE (pieces)", () -> busy(), x -> x.basket(3, 0, 0, 0), UNKNOWN);
+        refused("basket: UNKNOWN before BAD_VALUE (starch)", () -> busy(), x -> x.basket(3, 1, 4, 0), UNKNOWN);
+        refused("basket: UNKNOWN before BAD_VALUE (hangers)", () -> busy(), x -> x.basket(3, 1, 0, 100), UNKNOWN);
+        refused("basket: UNKNOWN before NOT_POSSIBLE", () -> busy(), x -> x.basket(3, 1, 0, 3), UNKNOWN);
+        refused("basket: BAD_VALUE (pieces) before NOT_POSSIBLE", () -> busy(), x -> x.basket(0, 0, 0, 3), BAD_VALUE);
+        refused("basket: BAD_VALUE (starch) before NOT_POSSIBLE", () -> busy(), x -> x.basket(0, 1, 4, 3), BAD_VALUE);
+        refused("basket: BAD_VALUE (hangers), not NOT_POSSIBLE", () -> busy(), x -> x.basket(0, 1, 0, 100), BAD_VALUE);
+        refused("basket: NOT_POSSIBLE", () -> busy(), x -> x.basket(0, 1, 0, 3), NOT_POSSIBLE);
+        refused("baskets: a fault before the errors of the baskets", () -> retyped(busy(), "9:l1;0:l1-9;x"),
                 x -> x.baskets(), -112);
-        refused("baskets: UNKNOWN", () -> retyped(some(), "0:l1;9:l1"), x -> x.baskets(), UNKNOWN);
-        refused("baskets: NOT_POSSIBLE", () -> retyped(some(), "0:l1-1;0:l1-2"), x -> x.baskets(), NOT_POSSIBLE);
-        refused("baskets: FULL", () -> retyped(some(), times(6, "0:l1")), x -> x.baskets(), FULL);
-        refused("lose: UNKNOWN (basket) and no such piece", () -> some(), x -> x.lose(9, 2), UNKNOWN);
-        refused("lose: UNKNOWN (kind)", () -> some(), x -> x.lose(1, 4), UNKNOWN);
-        refused("find: UNKNOWN (piece)", () -> some(), x -> x.find(3, 1), UNKNOWN);
-        refused("find: UNKNOWN (basket), and it could not belong to it", () -> some(), x -> x.find(0, 4), UNKNOWN);
-        refused("find: UNKNOWN (both)", () -> some(), x -> x.find(-1, -1), UNKNOWN);
-        refused("find: NOT_POSSIBLE", () -> some(), x -> x.find(0, 2), NOT_POSSIBLE);
-        refused("iron: BAD_VALUE", () -> some(), x -> x.iron(601), BAD_VALUE);
-        refused("pass: BAD_VALUE", () -> some(), x -> x.pass(100), BAD_VALUE);
-        refused("buy: BAD_VALUE", () -> some(), x -> x.buy(100), BAD_VALUE);
-        refused("pay: UNKNOWN", () -> some(), x -> x.pay(2), UNKNOWN);
-        refused("set: BAD_VALUE (which)", () -> some(), x -> x.set(4, 1), BAD_VALUE);
-        refused("set: BAD_VALUE (value)", () -> some(), x -> x.set(0, 3), BAD_VALUE);
+        refused("baskets: UNKNOWN", () -> retyped(busy(), "0:l1;9:l1"), x -> x.baskets(), UNKNOWN);
+        refused("baskets: NOT_POSSIBLE", () -> retyped(busy(), "0:l1-1;0:l1-2"), x -> x.baskets(), NOT_POSSIBLE);
+        refused("baskets: FULL", () -> retyped(busy(), times(5, "0:l1")), x -> x.baskets(), FULL);
+        refused("lose: UNKNOWN (basket) and no such piece", () -> busy(), x -> x.lose(9, 2), UNKNOWN);
+        refused("lose: UNKNOWN (kind)", () -> busy(), x -> x.lose(3, 4), UNKNOWN);
+        refused("find: UNKNOWN (piece)", () -> busy(), x -> x.find(4, 3), UNKNOWN);
+        refused("find: UNKNOWN (basket), and it could not belong to it", () -> busy(), x -> x.find(0, 6), UNKNOWN);
+        refused("find: UNKNOWN (both)", () -> busy(), x -> x.find(-1, -1), UNKNOWN);
+        refused("find: NOT_POSSIBLE", () -> busy(), x -> x.find(0, 3), NOT_POSSIBLE);
+        refused("iron: BAD_VALUE", () -> busy(), x -> x.iron(601), BAD_VALUE);
+        refused("pass: BAD_VALUE", () -> busy(), x -> x.pass(100), BAD_VALUE);
+        refused("buy: BAD_VALUE", () -> busy(), x -> x.buy(100), BAD_VALUE);
+        refused("pay: UNKNOWN", () -> busy(), x -> x.pay(3), UNKNOWN);
+        refused("set: BAD_VALUE (which)", () -> busy(), x -> x.set(4, 1), BAD_VALUE);
+        refused("set: BAD_VALUE (value)", () -> busy(), x -> x.set(0, 3), BAD_VALUE);
     }
 
     private static void orderOfChecksOfAnswers() {
         of("ERRORS, the order of the checks");
-        refused("customerOf: UNKNOWN before BAD_VALUE", () -> some(), x -> x.customerOf(2, 7), UNKNOWN);
-        refused("customerOf: BAD_VALUE", () -> some(), x -> x.customerOf(1, 7), BAD_VALUE);
-        refused("basketOf: UNKNOWN before BAD_VALUE", () -> some(), x -> x.basketOf(9, 10), UNKNOWN);
-        refused("basketOf: BAD_VALUE", () -> some(), x -> x.basketOf(1, 10), BAD_VALUE);
-        refused("lost: UNKNOWN before BAD_VALUE", () -> some(), x -> x.lost(3, 4), UNKNOWN);
-        refused("lost: BAD_VALUE", () -> some(), x -> x.lost(2, 4), BAD_VALUE);
-        refused("ordered: BAD_VALUE", () -> some(), x -> x.ordered(-1), BAD_VALUE);
-        refused("ordered: NONE", () -> some(), x -> x.ordered(3), NONE);
+        refused("customerOf: UNKNOWN before BAD_VALUE", () -> busy(), x -> x.customerOf(3, 7), UNKNOWN);
+        refused("customerOf: BAD_VALUE", () -> busy(), x -> x.customerOf(1, 7), BAD_VALUE);
+        refused("basketOf: UNKNOWN before BAD_VALUE", () -> busy(), x -> x.basketOf(9, 10), UNKNOWN);
+        refused("basketOf: BAD_VALUE", () -> busy(), x -> x.basketOf(2, 10), BAD_VALUE);
+        refused("lost: UNKNOWN before BAD_VALUE", () -> busy(), x -> x.lost(4, 4), UNKNOWN);
+        refused("lost: BAD_VALUE", () -> busy(), x -> x.lost(2, 4), BAD_VALUE);
+        refused("ordered: BAD_VALUE", () -> busy(), x -> x.ordered(-1), BAD_VALUE);
+        refused("ordered: NONE", () -> busy(), x -> x.ordered(4), NONE);
         refused("book: BAD_VALUE (what) before NONE", () -> new IroningBaskets(), x -> x.book(0, 4), BAD_VALUE);
         refused("book: BAD_VALUE (ago) before NONE", () -> new IroningBaskets(), x -> x.book(10, 0), BAD_VALUE);
         refused("book: NONE", () -> new IroningBaskets(), x -> x.book(0, 0), NONE);
-        refused("count: BAD_VALUE", () -> some(), x -> x.count(23), BAD_VALUE);
-        refused("ifIroned: BAD_VALUE (order)", () -> some(), x -> x.ifIroned(3, 1, 0), BAD_VALUE);
-        refused("ifIroned: BAD_VALUE (minutes)", () -> some(), x -> x.ifIroned(2, 601, 0), BAD_VALUE);
-        refused("ifIroned: BAD_VALUE (what)", () -> some(), x -> x.ifIroned(2, 600, 3), BAD_VALUE);
-        refused("bestOrder: BAD_VALUE", () -> some(), x -> x.bestOrder(0), BAD_VALUE);
-        refused("homeOn: UNKNOWN before BAD_VALUE", () -> some(), x -> x.homeOn(9, 0), UNKNOWN);
-        refused("homeOn: BAD_VALUE before NONE", () -> some(), x -> x.homeOn(1, 601), BAD_VALUE);
-        refused("homeOn: NONE", () -> some(), x -> x.homeOn(1, 1), NONE);
+        refused("count: BAD_VALUE", () -> busy(), x -> x.count(23), BAD_VALUE);
+        refused("ifIroned: BAD_VALUE (order)", () -> busy(), x -> x.ifIroned(3, 1, 0), BAD_VALUE);
+        refused("ifIroned: BAD_VALUE (minutes)", () -> busy(), x -> x.ifIroned(2, 601, 0), BAD_VALUE);
+        refused("ifIroned: BAD_VALUE (what)", () -> busy(), x -> x.ifIroned(2, 600, 3), BAD_VALUE);
+        refused("bestOrder: BAD_VALUE", () -> busy(), x -> x.bestOrder(0), BAD_VALUE);
+        refused("homeOn: UNKNOWN before BAD_VALUE", () -> busy(), x -> x.homeOn(9, 0), UNKNOWN);
+        refused("homeOn: BAD_VALUE before NONE", () -> busy(), x -> x.homeOn(2, 601), BAD_VALUE);
+        refused("homeOn: NONE", () -> busy(), x -> x.homeOn(2, 1), NONE);
     }
 
     private static void orderWithoutRoom() {
@@ -172,19 +154,19 @@ public final class RefusalsTest extends Checks {
         refused("buy: BAD_VALUE before FULL (too many)", () -> mostHangers(), x -> x.buy(100), BAD_VALUE);
         refused("buy: BAD_VALUE before FULL (too few)", () -> mostHangers(), x -> x.buy(0), BAD_VALUE);
         refused("buy: FULL", () -> mostHangers(), x -> x.buy(1), FULL);
-        refused("type: FULL", () -> retyped(some(), times(12, "0:l1") + ";"), x -> x.type('0'), FULL);
+        refused("type: FULL", () -> retyped(busy(), times(12, "0:l1") + ";"), x -> x.type('0'), FULL);
     }
 
     private static void noneChangesNothing() {
         of("ERRORS, a call that returns NONE changes nothing");
-        refused("visit", () -> some(), x -> x.visit(3, 65), NONE);
-        refused("lose", () -> some(), x -> x.lose(3, 3), NONE);
-        refused("pay", () -> some(), x -> x.pay(1), NONE);
-        refused("set", () -> some(), x -> x.set(0, 1), NONE);
+        refused("visit", () -> busy(), x -> x.visit(3, 65), NONE);
+        refused("lose", () -> busy(), x -> x.lose(4, 3), NONE);
+        refused("pay", () -> busy(), x -> x.pay(2), NONE);
+        refused("set", () -> busy(), x -> x.set(0, 2), NONE);
         refused("undo", () -> new IroningBaskets(), x -> x.undo(), NONE);
         refused("restore", () -> twentyLost(), x -> x.restore(), NONE);
-        refused("fault", () -> retyped(some(), "0:s1"), x -> x.fault(), NONE);
-        refused("customerOf", () -> some(), x -> x.customerOf(1, 5), NONE);
+        refused("fault", () -> retyped(busy(), "0:s1"), x -> x.fault(), NONE);
+        refused("customerOf", () -> busy(), x -> x.customerOf(2, 5), NONE);
     }
 
     private static void farArguments() {
@@ -192,40 +174,40 @@ public final class RefusalsTest extends Checks {
         far("customer", 5, (x, a) -> x.customer(a));
         far("visit of a district", 5, (x, a) -> x.visit(a, 9));
         far("visit on days", 128, (x, a) -> x.visit(0, a));
-        far("basket of a customer", 2, (x, a) -> x.basket(a, 1, 0, 0));
-        far("basket of pieces", 10000, (x, a) -> a == 0 ? BAD_VALUE : x.basket(0, a, 0, 0));
+        far("basket of a customer", 3, (x, a) -> x.basket(a, 1, 0, 0));
+        far("basket of pieces", 10000, (x, a) -> x.basket(0, a, 0, 0));
         far("basket with starch", 4, (x, a) -> x.basket(0, 1, a, 0));
         far("basket with hangers", 3, (x, a) -> x.basket(0, 1, 0, a));
-        far("lose of a basket", 4, (x, a) -> a == 0 ? UNKNOWN : x.lose(a, 3));
-        far("lose of a kind", 4, (x, a) -> x.lose(1, a));
-        far("find of a piece", 3, (x, a) -> x.find(a, a + 1));
-        far("find of a basket", 4, (x, a) -> x.find(1, a));
+        far("lose of a basket", 6, (x, a) -> x.lose(a, 3));
+        far("lose of a kind", 4, (x, a) -> x.lose(2, a));
+        far("find of a piece", 4, (x, a) -> x.find(a, 2));
+        far("find of a basket", 6, (x, a) -> x.find(1, a));
         far("iron", 601, (x, a) -> x.iron(a));
         far("pass", 100, (x, a) -> x.pass(a));
         far("buy", 100, (x, a) -> x.buy(a));
-        far("pay", 2, (x, a) -> x.pay(a));
-        far("set of a setting", 4, (x, a) -> x.set(a, 2));
+        far("pay", 3, (x, a) -> x.pay(a));
+        far("set of a setting", 4, (x, a) -> x.set(a, 1));
         far("set to a value", 100, (x, a) -> x.set(3, a));
     }
 
     private static void farArgumentsOfAnswers() {
         of("arguments outside of every range");
-        far("customerOf of a customer", 2, (x, a) -> x.customerOf(a, 0));
+        far("customerOf of a customer", 3, (x, a) -> x.customerOf(a, 0));
         far("customerOf what", 7, (x, a) -> x.customerOf(0, a));
-        far("basketOf of a basket", 4, (x, a) -> x.basketOf(a, 0));
-        far("basketOf what", 10, (x, a) -> x.basketOf(1, a));
-        far("lost of a piece", 3, (x, a) -> x.lost(a, 0));
+        far("basketOf of a basket", 6, (x, a) -> x.basketOf(a, 0));
+        far("basketOf what", 10, (x, a) -> x.basketOf(2, a));
+        far("lost of a piece", 4, (x, a) -> x.lost(a, 0));
         far("lost what", 4, (x, a) -> x.lost(0, a));
-        far("ordered", 3, (x, a) -> x.ordered(a));
+        far("ordered", 4, (x, a) -> x.ordered(a));
         far("book of ago", 10, (x, a) -> x.book(a, 0));
         far("book what", 4, (x, a) -> x.book(0, a));
         far("count", 23, (x, a) -> x.count(a));
         far("ifIroned with an order", 3, (x, a) -> x.ifIroned(a, 60, 0));
-        far("ifIroned for minutes", 601, (x, a) -> a == 0 ? BAD_VALUE : x.ifIroned(0, a, 0));
+        far("ifIroned for minutes", 601, (x, a) -> x.ifIroned(0, a, 0));
         far("ifIroned what", 3, (x, a) -> x.ifIroned(0, 60, a));
-        far("bestOrder", 601, (x, a) -> a == 0 ? BAD_VALUE : x.bestOrder(a));
-        far("homeOn of a basket", 4, (x, a) -> x.homeOn(a, 600));
-        far("homeOn for minutes", 601, (x, a) -> x.homeOn(3, a));
+        far("bestOrder", 601, (x, a) -> x.bestOrder(a));
+        far("homeOn of a basket", 6, (x, a) -> x.homeOn(a, 600));
+        far("homeOn for minutes", 601, (x, a) -> x.homeOn(2, a));
     }
 
     /** A call with one argument that is far away. */
@@ -233,19 +215,18 @@ public final class RefusalsTest extends Checks {
         int of(IroningBaskets x, int argument);
     }
 
-    /** Below 0 and from the bound on the answer is below 0, and what is told stays. */
+    /** Below 0 and from the bound on the answer is below 0; whenever it is, what is told stays. */
     private static void far(String name, int bound, FarCall call) {
         test(name, () -> {
             for (int argument : FAR) {
-                IroningBaskets x = some();
+                IroningBaskets x = busy();
                 String before = everythingAndMore(x);
                 int answer = call.of(x, argument);
                 if (argument < 0 || argument >= bound) {
                     due(name + " " + argument + " is refused, not " + answer, answer < 0 ? 1 : 0, 1);
-                    due("what is told after " + name + " " + argument, everythingAndMore(x), before);
                 }
                 if (answer < 0) {
-                    due("a refused " + name + " " + argument, everythingAndMore(x), before);
+                    due("what is told after " + name + " " + argument, everythingAndMore(x), before);
                 }
             }
         });

@@ -29,8 +29,10 @@ public final class TermsBoundaryTest extends Checks {
         textOfKinds();
         textOfStarchAndHangers();
         history();
+        historyOfActs();
         historyOfRefusals();
         states();
+        placesUsedAgain();
         finish("TermsBoundaryTest");
     }
 
@@ -352,6 +354,18 @@ public final class TermsBoundaryTest extends Checks {
             due(x.customerOf(0, 1), 5);
             due(x.customerOf(0, 5), 1);
             due(x.customerOf(1, 1), 0);
+        });
+        test("when one customer's are all back, another's stay with it", () -> {
+            IroningBaskets x = withCustomers(0, 0, 0);
+            sendHangers(x, 0, 2);
+            sendHangers(x, 1, 3);
+            sendHangers(x, 2, 4);
+            x.basket(0, 1, 0, 2);
+            due(x.customerOf(0, 1), 0);
+            due(x.customerOf(1, 1), 3);
+            due(x.customerOf(1, 5), 2);
+            due(x.customerOf(2, 1), 4);
+            due(x.customerOf(2, 5), 3);
         });
         test("99 hangers may be given back at once", () -> {
             IroningBaskets x = withCustomers(0);
@@ -821,6 +835,20 @@ public final class TermsBoundaryTest extends Checks {
                 due(x.lost(3, 0), UNKNOWN);
             });
         }
+        test("those behind it move up with their degrees", () -> {
+            IroningBaskets x = withCustomers(0);
+            for (int starch = 3; starch >= 0; starch--) {
+                x.basket(0, 1000, starch, 0);
+                x.lose(3 - starch, 0);
+            }
+            due(x.find(1, 1), 3);
+            due(x.lost(0, 1), 3);
+            due(x.lost(1, 1), 1);
+            due(x.lost(2, 1), 0);
+            due(x.find(0, 0), 2);
+            due(x.lost(0, 1), 1);
+            due(x.lost(1, 1), 0);
+        });
         test("a piece lost after one was found comes last", () -> {
             IroningBaskets x = withBaskets(1111);
             x.lose(0, 3);
@@ -1235,6 +1263,23 @@ public final class TermsBoundaryTest extends Checks {
             dueFault("0:s1-12*1", 7);
             dueFault("0:s1-1b1", 6);
         });
+        test("signs beside the digits are no hangers", () -> {
+            dueFault("0:s1-/", 5);
+            dueFault("0:s1-:", 5);
+            dueFault("0:s1-1/", 6);
+            dueFault("0:s1-1:", 6);
+            dueFault("0:s1*/", 5);
+        });
+        test("two digits are tens and ones", () -> {
+            for (int hangers : new int[] {9, 10, 11, 19, 25, 27}) {
+                IroningBaskets x = withCustomers(0);
+                sendHangers(x, 0, 27);
+                typeAll(x, "0:l1-" + hangers);
+                due("baskets with " + hangers, x.baskets(), 1);
+                due("given back", x.book(0, 3), hangers);
+                due("left", x.customerOf(0, 1), 27 - hangers);
+            }
+        });
         test("none if they are left out, also behind a basket with some", () -> {
             IroningBaskets x = withCustomers(0);
             sendHangers(x, 0, 3);
@@ -1319,6 +1364,60 @@ public final class TermsBoundaryTest extends Checks {
             x.wanting();
             x.sure();
             due(x.count(17), 3);
+        });
+    }
+
+    /** An act. */
+    private interface Act {
+        int on(IroningBaskets x);
+    }
+
+    private static void recorded(String name, Act act) {
+        test("each call of an act records the state that was before it: " + name, () -> {
+            IroningBaskets x = busy();
+            String before = everything(x);
+            due(act.on(x) >= 0 ? 1 : 0, 1);
+            due(x.count(17), 4);
+            due(x.undo(), 3);
+            due("what was before", everything(x), before);
+            IroningBaskets same = busy();
+            x.undo();
+            same.undo();
+            due("what was before that", everything(x), everything(same));
+        });
+    }
+
+    private static void historyOfActs() {
+        of("HISTORY");
+        recorded("customer", x -> x.customer(2));
+        recorded("visit", x -> x.visit(0, 8));
+        recorded("basket", x -> x.basket(0, 1111, 3, 2));
+        recorded("baskets", x -> x.baskets());
+        recorded("lose", x -> x.lose(2, 3));
+        recorded("find", x -> x.find(0, 2));
+        recorded("find of the last", x -> x.find(3, 3));
+        recorded("iron", x -> x.iron(600));
+        recorded("pass", x -> x.pass(20));
+        recorded("buy", x -> x.buy(7));
+        recorded("pay", x -> x.pay(0));
+        recorded("set of the order", x -> x.set(0, 1));
+        recorded("set of the minutes", x -> x.set(1, 0));
+        recorded("set of the grace", x -> x.set(2, 1));
+        recorded("set of the price", x -> x.set(3, 50));
+        recorded("restore", x -> x.restore());
+        test("four acts are undone to the last, also if they used places again", () -> {
+            IroningBaskets x = busy();
+            String before = everything(x);
+            due(x.pass(20), 1);
+            due(x.basket(2, 4321, 1, 0), 6);
+            due(x.find(0, 2), 3);
+            due(x.baskets(), NOT_POSSIBLE);
+            due(x.lose(6, 0), 4);
+            for (int left = 3; left >= 0; left--) {
+                due("undo", x.undo(), left);
+            }
+            due("what was before", everything(x), before);
+            due(x.baskets(), 2);
         });
     }
 
@@ -1421,6 +1520,53 @@ public final class TermsBoundaryTest extends Checks {
             x.visit(4, 6);
             x.restore();
             due(x.visit(4, 127), NONE);
+        });
+    }
+
+    private static void placesUsedAgain() {
+        of("HISTORY");
+        test("a customer that comes after undo has nothing of the one that was", () -> {
+            IroningBaskets x = new IroningBaskets();
+            x.keep();
+            x.customer(4);
+            sendHangers(x, 0, 3);
+            x.pass(20);
+            due(x.customerOf(0, 2), 15);
+            x.restore();
+            x.customer(1);
+            int[] due = {1, 0, 0, 0, 0, NONE, 1};
+            for (int what = 0; what <= 6; what++) {
+                due("what " + what, x.customerOf(0, what), due[what]);
+            }
+        });
+        test("a basket that comes after undo has nothing of the one that was", () -> {
+            IroningBaskets x = withCustomers(0, 1);
+            x.keep();
+            x.pass(5);
+            x.basket(0, 9999, 3, 0);
+            for (int kind = 0; kind < 4; kind++) {
+                x.lose(0, kind);
+            }
+            x.iron(100);
+            x.restore();
+            x.basket(1, 1111, 1, 0);
+            int[] due = {1, 0, 1, 1111, 0, 0, 0, 3 + 3 + 3 + 4, 6 + 5 + 6 + 8, 0};
+            for (int what = 0; what <= 9; what++) {
+                due("what " + what, x.basketOf(0, what), due[what]);
+            }
+            due(x.count(10), 0);
+        });
+        test("the book after undo goes on from the events that are left", () -> {
+            IroningBaskets x = withBaskets(9);
+            x.lose(0, 3);
+            x.undo();
+            due(x.book(0, 0), 0);
+            due(x.book(1, 0), NONE);
+            x.pass(1);
+            x.lose(0, 3);
+            due(x.book(0, 1), 1);
+            due(x.book(1, 0), 0);
+            due(x.book(2, 0), NONE);
         });
     }
 }
