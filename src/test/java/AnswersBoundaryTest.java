@@ -53,6 +53,18 @@ public final class AnswersBoundaryTest extends Checks {
             x.pass(15);
             due(x.customerOf(0, 5), NONE);
         });
+        test("NONE if none are out: a basket of sheets takes none along", () -> {
+            IroningBaskets x = withBaskets(9);
+            x.iron(600);
+            due(x.pass(1), 1);
+            due(x.customerOf(0, 1), 0);
+            due(x.customerOf(0, 5), NONE);
+            x.pass(20);
+            due(x.customerOf(0, 3), 0);
+            due(x.book(0, 0), 1);
+            sendHangers(x, 0, 1);
+            due(x.customerOf(0, 5), 22);
+        });
         test("hangers that it paid so far: of several days", () -> {
             IroningBaskets x = withCustomers(0);
             sendHangers(x, 0, 2);
@@ -598,6 +610,27 @@ public final class AnswersBoundaryTest extends Checks {
             due(x.ifIroned(2, 25, 0), 3);
             due(x.bestOrder(25), 2);
             due(x.bestOrder(23), 0);
+        });
+        test("the most baskets are ready: a later order with fewer is not better", () -> {
+            IroningBaskets x = withCustomers(0, 1);
+            x.visit(0, 0);
+            x.basket(0, 1, 0, 0);
+            x.basket(1, 9, 0, 0);
+            due(x.ifIroned(0, 8, 1), 1);
+            due(x.ifIroned(1, 8, 1), 0);
+            due(x.ifIroned(2, 8, 1), 1);
+            due(x.bestOrder(8), 0);
+        });
+        test("the most baskets are ready: 1 may be the only one, as stirring does not count for 2", () -> {
+            IroningBaskets x = withCustomers(0, 1);
+            x.visit(0, 0);
+            x.set(1, 20);
+            x.basket(0, 9, 0, 0);
+            x.basket(1, 10, 0, 0);
+            x.basket(0, 100, 1, 0);
+            due(x.ifIroned(2, 6, 1), 0);
+            due(x.bestOrder(5), 0);
+            due(x.bestOrder(6), 1);
         });
         test("of several the one with the most pieces: one more decides", () -> {
             IroningBaskets x = withCustomers(0, 1);
