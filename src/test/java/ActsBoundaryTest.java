@@ -276,12 +276,6 @@ public final class ActsBoundaryTest extends Checks {
         return x;
     }
 
-    private static IroningBaskets retyped(IroningBaskets x, String signs) {
-        x.clearText();
-        typeAll(x, signs);
-        return x;
-    }
-
     private static void promise5Baskets() {
         of("promise 5");
         test("-100 minus the fault: the empty text", () -> due(new IroningBaskets().baskets(), -100));
@@ -575,14 +569,6 @@ public final class ActsBoundaryTest extends Checks {
         });
     }
 
-    private static IroningBaskets lateOn(int day) {
-        IroningBaskets x = new IroningBaskets();
-        for (int left = day; left > 0; left -= 99) {
-            x.pass(Math.min(99, left));
-        }
-        return x;
-    }
-
     private static void promise10Buy() {
         of("promise 10");
         test("hangers 1 to 99", () -> {
@@ -628,14 +614,6 @@ public final class ActsBoundaryTest extends Checks {
             due(x.buy(55), FULL);
             due(x.buy(54), 999);
         });
-    }
-
-    private static IroningBaskets withHangers(int stock) {
-        IroningBaskets x = new IroningBaskets();
-        for (int left = stock - 60; left > 0; left -= 99) {
-            x.buy(Math.min(99, left));
-        }
-        return x;
     }
 
     private static void promise11Pay() {

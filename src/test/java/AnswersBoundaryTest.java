@@ -748,10 +748,7 @@ public final class AnswersBoundaryTest extends Checks {
             due(x.homeOn(2, 600), 1);
         });
         test("on the last day that can pass: it is taken on the day after", () -> {
-            IroningBaskets x = new IroningBaskets();
-            for (int i = 0; i < 101; i++) {
-                x.pass(99);
-            }
+            IroningBaskets x = lateOn(9999);
             x.customer(0);
             x.basket(0, 1, 0, 0);
             due(x.homeOn(0, 8), 10000);

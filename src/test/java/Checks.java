@@ -110,6 +110,31 @@ abstract class Checks {
         return x;
     }
 
+    /** The same object, with this text in place of the one that was. */
+    static IroningBaskets retyped(IroningBaskets x, String signs) {
+        x.clearText();
+        typeAll(x, signs);
+        return x;
+    }
+
+    /** A service without customers on a later day. */
+    static IroningBaskets lateOn(int day) {
+        IroningBaskets x = new IroningBaskets();
+        for (int left = day; left > 0; left -= 99) {
+            x.pass(Math.min(99, left));
+        }
+        return x;
+    }
+
+    /** A service with more than 60 hangers, all in stock. */
+    static IroningBaskets withHangers(int stock) {
+        IroningBaskets x = new IroningBaskets();
+        for (int left = stock - 60; left > 0; left -= 99) {
+            x.buy(Math.min(99, left));
+        }
+        return x;
+    }
+
     /** The text for some baskets of a customer, alike. */
     static String times(int number, String basket) {
         StringBuilder text = new StringBuilder(basket);

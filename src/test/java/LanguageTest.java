@@ -1,3 +1,11 @@
+import com.sun.source.tree.CompilationUnitTree;
+import com.sun.source.tree.MethodInvocationTree;
+import com.sun.source.tree.MethodTree;
+import com.sun.source.tree.NewArrayTree;
+import com.sun.source.tree.NewClassTree;
+import com.sun.source.util.JavacTask;
+import com.sun.source.util.TreePathScanner;
+import com.sun.source.util.Trees;
 import java.io.IOException;
 import java.lang.reflect.Constructor;
 import java.lang.reflect.Field;
@@ -6,8 +14,15 @@ import java.lang.reflect.Modifier;
 import java.nio.charset.StandardCharsets;
 import java.nio.file.Files;
 import java.nio.file.Path;
+import java.util.HashMap;
+import java.util.Map;
 import java.util.Set;
+import java.util.TreeMap;
 import java.util.TreeSet;
+import javax.lang.model.element.Element;
+import javax.tools.JavaCompiler;
+import javax.tools.StandardJavaFileManager;
+import javax.tools.ToolProvider;
 
 /** Holds the class against the face of the document and the rules of LANGUAGE.md that can be seen. */
 public final class LanguageTest {
@@ -23,12 +38,17 @@ public final class LanguageTest {
         "finally", "catch", "try ", "throw", "static {", "System.out", "Exact(", "hashCode", "toString",
         "System.nanoTime", "System.currentTimeMillis", "Random", "Thread", "@Override", "\" +", "+ \""};
 
+    private static final Path FILE = Path.of("src/main/java/IroningBaskets.java");
+    private static final int DEEPEST = 8;
+    private static final Set<String> LIBRARY = Set.of("Math.max", "Math.min", "System.arraycopy", "Object.<init>");
+
     private static int wrong;
 
     public static void main(String[] args) throws IOException {
         face();
         nested();
         source();
+        calls();
         System.out.println("LanguageTest: " + wrong + " wrong");
         if (wrong != 0) {
             System.exit(1);
@@ -106,7 +126,7 @@ public final class LanguageTest {
     }
 
     private static void source() throws IOException {
-        String text = Files.readString(Path.of("src/main/java/IroningBaskets.java"), StandardCharsets.UTF_8);
+        String text = Files.readString(FILE, StandardCharsets.UTF_8);
         for (String sign : FORBIDDEN) {
             must(!text.contains(sign), "the source holds " + sign);
         }
@@ -122,5 +142,95 @@ public final class LanguageTest {
                 start = i + 1;
             }
         }
+    }
+
+    /** Who calls whom, as the compiler sees it: by the methods' classes, names and parameters. */
+    private static final class Calls extends TreePathScanner<Void, Void> {
+        final Map<String, Set<String>> callees = new TreeMap<>();
+        final Set<String> library = new TreeSet<>();
+        final Set<String> making = new TreeSet<>();
+        private final Trees trees;
+        private String caller = "";
+
+        Calls(Trees trees) {
+            this.trees = trees;
+        }
+
+        private static String name(Element method) {
+            return method.getEnclosingElement().getSimpleName() + "." + method;
+        }
+
+        @Override
+        public Void visitMethod(MethodTree method, Void nothing) {
+            caller = name(trees.getElement(getCurrentPath()));
+            callees.put(caller, new TreeSet<>());
+            super.visitMethod(method, nothing);
+            caller = "";
+            return nothing;
+        }
+
+        @Override
+        public Void visitMethodInvocation(MethodInvocationTree call, Void nothing) {
+            Element called = trees.getElement(getCurrentPath());
+            if (!caller.isEmpty()) {
+                callees.get(caller).add(name(called));
+            }
+            if (called.getEnclosingElement().toString().startsWith("java.")) {
+                library.add(called.getEnclosingElement().getSimpleName() + "." + called.getSimpleName());
+            }
+            return super.visitMethodInvocation(call, nothing);
+        }
+
+        @Override
+        public Void visitNewClass(NewClassTree made, Void nothing) {
+            making.add(caller);
+            return super.visitNewClass(made, nothing);
+        }
+
+        @Override
+        public Void visitNewArray(NewArrayTree made, Void nothing) {
+            making.add(caller);
+            return super.visitNewArray(made, nothing);
+        }
+    }
+
+    private static void calls() throws IOException {
+        JavaCompiler compiler = ToolProvider.getSystemJavaCompiler();
+        try (StandardJavaFileManager files = compiler.getStandardFileManager(null, null, null)) {
+            JavacTask task = (JavacTask) compiler.getTask(null, files, null, null, null,
+                    files.getJavaFileObjects(FILE));
+            Iterable<? extends CompilationUnitTree> units = task.parse();
+            task.analyze();
+            Calls calls = new Calls(Trees.instance(task));
+            for (CompilationUnitTree unit : units) {
+                calls.scan(unit, null);
+            }
+            Map<String, Integer> depths = new HashMap<>();
+            must(calls.callees.size() > FACE.length, "the methods are found");
+            for (String method : calls.callees.keySet()) {
+                int depth = depth(method, calls.callees, depths);
+                must(depth <= DEEPEST, method + " opens " + depth + " calls at once");
+            }
+            must(LIBRARY.containsAll(calls.library), "of the library: " + calls.library);
+            calls.making.remove("");
+            for (String method : calls.making) {
+                must(method.matches("(\\w+)\\.\\1\\(.*"), method + " makes an object, and is no constructor");
+            }
+        }
+    }
+
+    /** The most calls that stand open at once, the method's own among them; far too many if it calls itself. */
+    private static int depth(String method, Map<String, Set<String>> callees, Map<String, Integer> known) {
+        Integer before = known.get(method);
+        if (before != null) {
+            return before;
+        }
+        known.put(method, 1000);
+        int deepest = 0;
+        for (String callee : callees.getOrDefault(method, Set.of())) {
+            deepest = Math.max(deepest, depth(callee, callees, known));
+        }
+        known.put(method, deepest + 1);
+        return deepest + 1;
     }
 }

@@ -43,29 +43,6 @@ public final class RefusalsTest extends Checks {
         return withCustomers(0, 1, 2, 3, 4, 4, 3, 2, 1, 0);
     }
 
-    private static IroningBaskets lastDay() {
-        IroningBaskets x = new IroningBaskets();
-        for (int i = 0; i < 101; i++) {
-            x.pass(99);
-        }
-        return x;
-    }
-
-    private static IroningBaskets mostHangers() {
-        IroningBaskets x = new IroningBaskets();
-        for (int i = 0; i < 9; i++) {
-            x.buy(99);
-        }
-        x.buy(48);
-        return x;
-    }
-
-    private static IroningBaskets retyped(IroningBaskets x, String text) {
-        x.clearText();
-        typeAll(x, text);
-        return x;
-    }
-
     /** The call is refused like this, changes nothing, and the latest act is still undone by undo. */
     private static void refused(String name, Maker maker, Call call, int error) {
         test(name, () -> {
@@ -148,12 +125,12 @@ public final class RefusalsTest extends Checks {
         refused("lose: UNKNOWN (kind) before FULL", () -> twentyLost(), x -> x.lose(1, 4), UNKNOWN);
         refused("lose: FULL", () -> twentyLost(), x -> x.lose(1, 3), FULL);
         refused("lose: FULL and not NONE", () -> twentyLost(), x -> x.lose(0, 3), FULL);
-        refused("pass: BAD_VALUE before FULL (too many)", () -> lastDay(), x -> x.pass(100), BAD_VALUE);
-        refused("pass: BAD_VALUE before FULL (too few)", () -> lastDay(), x -> x.pass(0), BAD_VALUE);
-        refused("pass: FULL", () -> lastDay(), x -> x.pass(1), FULL);
-        refused("buy: BAD_VALUE before FULL (too many)", () -> mostHangers(), x -> x.buy(100), BAD_VALUE);
-        refused("buy: BAD_VALUE before FULL (too few)", () -> mostHangers(), x -> x.buy(0), BAD_VALUE);
-        refused("buy: FULL", () -> mostHangers(), x -> x.buy(1), FULL);
+        refused("pass: BAD_VALUE before FULL (too many)", () -> lateOn(9999), x -> x.pass(100), BAD_VALUE);
+        refused("pass: BAD_VALUE before FULL (too few)", () -> lateOn(9999), x -> x.pass(0), BAD_VALUE);
+        refused("pass: FULL", () -> lateOn(9999), x -> x.pass(1), FULL);
+        refused("buy: BAD_VALUE before FULL (too many)", () -> withHangers(999), x -> x.buy(100), BAD_VALUE);
+        refused("buy: BAD_VALUE before FULL (too few)", () -> withHangers(999), x -> x.buy(0), BAD_VALUE);
+        refused("buy: FULL", () -> withHangers(999), x -> x.buy(1), FULL);
         refused("type: FULL", () -> retyped(busy(), times(12, "0:l1") + ";"), x -> x.type('0'), FULL);
     }
 
