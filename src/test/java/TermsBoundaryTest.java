@@ -33,6 +33,7 @@ public final class TermsBoundaryTest extends Checks {
         historyOfRefusals();
         states();
         placesUsedAgain();
+        manyCalls();
         finish("TermsBoundaryTest");
     }
 
@@ -1567,6 +1568,56 @@ public final class TermsBoundaryTest extends Checks {
             due(x.book(0, 1), 1);
             due(x.book(1, 0), 0);
             due(x.book(2, 0), NONE);
+        });
+    }
+
+    private static void manyCalls() {
+        of("What it is");
+        test("at most 512 calls: 507 acts, and the last four are undone", () -> {
+            IroningBaskets x = new IroningBaskets();
+            for (int i = 0; i < 507; i++) {
+                due("act " + i, x.set(3, 3 + i % 90), i == 0 ? 2 : 3 + (i - 1) % 90);
+            }
+            for (int left = 3; left >= 0; left--) {
+                due("undo", x.undo(), left);
+            }
+            due(x.set(3, 3 + 502 % 90), NONE);
+        });
+        test("at most 512 calls: 506 events, and the tenth latest is known", () -> {
+            IroningBaskets x = withBaskets(1);
+            for (int i = 0; i < 252; i++) {
+                due("lose " + i, x.lose(0, 3), 1);
+                due("find " + i, x.find(0, 0), 0);
+            }
+            due(x.lose(0, 3), 1);
+            for (int ago = 0; ago < 5; ago++) {
+                due("event " + ago, x.book(ago == 4 ? 9 : ago, 0), ago % 2 == 0 && ago < 4 ? 3 : 4);
+            }
+        });
+        test("at most 512 calls: a customer that comes and is undone, again and again", () -> {
+            IroningBaskets x = new IroningBaskets();
+            for (int i = 0; i < 256; i++) {
+                due("customer " + i, x.customer(i % 5), 0);
+                due("undo " + i, x.undo(), 0);
+            }
+        });
+        test("at most 512 calls: the most coins, pieces and days add up", () -> {
+            IroningBaskets x = withCustomers(0);
+            x.set(3, 99);
+            for (int i = 0; i < 99; i++) {
+                x.basket(0, 9999, 3, 0);
+                x.buy(27);
+                x.iron(600);
+                x.pass(99);
+            }
+            due(x.count(0), 99 * 99);
+            due(x.count(4), 99);
+            due(x.count(13), 99 * 36);
+            due(x.count(14), 3 + 99 * 9 * (8 + 7 + 6 + 8));
+            due(x.count(8), 99 * 27);
+            due(x.count(15), 99 * (9 * 15 + 27 * 99));
+            due(x.pay(0), 99 * (9 * 15 + 27 * 99));
+            due(x.count(16), 99 * (9 * 15 + 27 * 99));
         });
     }
 }
